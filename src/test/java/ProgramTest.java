@@ -17,6 +17,8 @@ public final class ProgramTest {
         outcomes();
         deepestStack();
         longest();
+        whatWasCutIsNotRead();
+        eachProgramAnew();
         Check.finish("ProgramTest");
     }
 
@@ -150,6 +152,8 @@ public final class ProgramTest {
         fault("c1 := 1 else else", 13);
         fault("if c1 then c2 := 1", 6);
         fault("if c1 := 1 then c2 := 1", 6);
+        fault("if 1 2 then c1 := 1", 5);
+        fault("if 1 c2 = 2 then c1 := 1", 5);
         fault("if 1 = 1 c2 := 1", 9);
         fault("if 1 = 1 = 1 then c1 := 1", 9);
         fault("if 1 < > 2 then c1 := 1", 7);
@@ -221,6 +225,8 @@ public final class ProgramTest {
 
     private static void sums() {
         sum("7", 7);
+        sum("9", 9);
+        sum("1234567890", 1234567890);
         sum("server", 3);
         sum("stamp", 7);
         sum("c2", 5);
@@ -312,6 +318,34 @@ public final class ProgramTest {
         x.write(0, 0, 0);
         Check.due("outcome of " + sum, x.outcome(0, 0), 1);
         Check.due(sum, x.cell(0, 1, false), value);
+    }
+
+    /** Bytes behind the cut, and those of earlier programs, are no part of the text. */
+    private static void whatWasCutIsNotRead() {
+        String text = "c12 := 345 else c3 := 4";
+        int[] want = {0, 1, 2, 3, 4, 4, 6, 7, GOOD, GOOD, GOOD, GOOD, 11, 11, 11, 15};
+        for (int n = 0; n < want.length; n++) {
+            DriftStore x = new DriftStore();
+            Check.feed(x, text);
+            x.end(n);
+            Check.due("the first " + n + " of " + text, x.program(), want[n]);
+        }
+        DriftStore x = new DriftStore();
+        Check.feed(x, text);
+        x.end(8);
+        x.program();
+        x.write(0, 0, 0);
+        Check.due("a number that was cut", x.cell(0, 12, false), 3);
+    }
+
+    private static void eachProgramAnew() {
+        DriftStore x = new DriftStore();
+        for (int i = 0; i < 3; i++) {
+            Check.due("80 parts again", Check.program(x, "c1:=1" + times("+1", 79)), GOOD);
+            Check.due("a fault again", Check.program(x, "c1:=1 +"), 7);
+            x.write(0, 0, 0);
+            Check.due("80 parts done again", x.cell(0, 1, false), 80);
+        }
     }
 
     private static void longest() {

@@ -108,7 +108,8 @@ public final class PromisesTest {
         due("3 all", x.end(20), 20);
         due("3 cut", x.end(6), 6);
         due("3 what is cut is gone", x.end(7), REFUSED);
-        due("3 feed goes behind what is left", x.feed(0x20202020, 0x20202020, 0x20202020, 0x20202020, 0x202b2031), 26);
+        due("3 feed goes behind what is left",
+            x.feed(0x20202020, 0x20202020, 0x20202020, 0x20202020, 0x202b2031), 26);
         due("3 program", x.program(), NONE);
         x.write(0, 0, 0);
         due("3 its first bytes stay", x.cell(0, 1, false), 79);
@@ -234,7 +235,8 @@ public final class PromisesTest {
         x.write(1, 3, 0);
         for (int bits = 0; bits < 16; bits++) {
             x.assure(3, bits, false);
-            due("6 reads what it wrote, bits " + bits, x.read(2, 3, 0, bits > 7), (bits & 1) != 0 ? Check.DENIED_READ : 0);
+            due("6 reads what it wrote, bits " + bits, x.read(2, 3, 0, bits > 7),
+                (bits & 1) != 0 ? Check.DENIED_READ : 0);
             due("6 where it wrote, bits " + bits, x.read(1, 4, 0, false), 1);
         }
         DriftStore y = digits();
@@ -243,14 +245,41 @@ public final class PromisesTest {
         y.read(1, 3, 0, true);
         for (int bits = 0; bits < 16; bits++) {
             y.assure(3, bits, false);
-            due("6 reads no less, bits " + bits, y.read(4, 3, 0, bits > 7), (bits & 2) != 0 ? Check.DENIED_READ : 0);
+            due("6 reads no less, bits " + bits, y.read(4, 3, 0, bits > 7),
+                (bits & 2) != 0 ? Check.DENIED_READ : 0);
         }
         y.assure(3, 3, false);
         due("6 denied", y.read(2, 3, 0, false), Check.DENIED_READ);
         due("6 denied leaves the read vector", y.stamp(1, 3, 2), 0);
         due("6 wrong cell comes first", y.read(2, 3, 32, false), Check.NO_CELL);
+        eachStampCounts();
         y.meet(1, 2, 1);
         due("6 no longer denied", y.read(2, 3, 0, false), 12);
+    }
+
+    /** One stamp that is less is enough, whichever server's it is. */
+    private static void eachStampCounts() {
+        for (int s = 0; s < 5; s++) {
+            DriftStore x = digits();
+            for (int other = 0; other < 5; other++) {
+                x.write(other, 0, 0);
+                x.write(other, 1, 0);
+            }
+            x.assure(2, 15, true);
+            x.read(s, 2, 0, false);
+            x.assure(3, 15, true);
+            x.write(s, 3, 0);
+            for (int at = 0; at < 5; at++) {
+                long read = x.read(at, 2, 0, false);
+                due("6 read by one that read at " + s, read == Check.DENIED_READ ? 1 : 0, at == s ? 0 : 1);
+                long own = x.read(at, 3, 0, true);
+                due("6 read by one that wrote at " + s, own == Check.DENIED_READ ? 1 : 0, at == s ? 0 : 1);
+                if (at != s) {
+                    due("5 write by one that read at " + s, x.write(at, 2, 0), DENIED);
+                    due("5 write by one that wrote at " + s, x.write(at, 3, 0), DENIED);
+                }
+            }
+        }
     }
 
     private static void promise7Assure() {
