@@ -64,6 +64,7 @@ public final class ProgramTest {
     private static void faultsInTokens() {
         fault("cc := 1", 0);
         fault("x := 1", 0);
+        fault("cz := 1", 0);
         fault("C1 := 1", 0);
         fault("ifc1 = 1 then c1 := 1", 0);
         fault("if 1 = 1 thenc1 := 1", 9);
@@ -82,6 +83,7 @@ public final class ProgramTest {
         fault("c1 := \u00e9", 6);
         fault("\u0000c1 := 1", 0);
         fault("c1 := 2147483648", 6);
+        fault("c1 := 21474836470", 6);
         fault("c1 := 99999999999999999999999999", 6);
         fault("c1 := 1 + 18446744073709551617", 10);
         fault("c4294967297 := 1", 1);
