@@ -35,9 +35,23 @@ final class Check {
     /** Brings a text to an empty tape; answers what the last call did. */
     static int feed(DriftStore x, String text) {
         for (int i = 0; i < text.length(); i += 20) {
-            x.feed(four(text, i), four(text, i + 4), four(text, i + 8), four(text, i + 12), four(text, i + 16));
+            feedTwenty(x, text, i);
         }
         return x.end(text.length());
+    }
+
+    /** One call with the twenty bytes of the text from there on, zeros behind its last. */
+    static int feedTwenty(DriftStore x, String text, int from) {
+        int[] five = five(text, from);
+        return x.feed(five[0], five[1], five[2], five[3], five[4]);
+    }
+
+    static int[] five(String text, int from) {
+        int[] five = new int[5];
+        for (int i = 0; i < 5; i++) {
+            five[i] = four(text, from + 4 * i);
+        }
+        return five;
     }
 
     static int program(DriftStore x, String text) {
@@ -49,6 +63,11 @@ final class Check {
         DriftStore x = new DriftStore();
         due("program " + text, program(x, text), DriftStore.NONE);
         return x;
+    }
+
+    /** Numbers that are not 0 to highest: the next ones on both sides, and far ones. */
+    static int[] outside(int highest) {
+        return new int[] {-1, highest + 1, LOWEST, HIGHEST, -highest - 1, highest + 257, 1 << 16};
     }
 
     private static int four(String text, int from) {
