@@ -21,6 +21,7 @@ public final class MeetEdgesTest {
         clockOfWhatIsForgotten();
         fiveHundredItems();
         fiveHundredForgotten();
+        lastOfFiveHundredFirst();
         theGiverStays();
         Check.finish("MeetEdgesTest");
     }
@@ -271,6 +272,23 @@ public final class MeetEdgesTest {
         met.due("forgotten", x -> x.count(2, 2), 500);
         met.due("done", x -> x.cell(2, 0, true), 500);
         met.due("no more", x -> x.meet(0, 2, 1), 0);
+    }
+
+    /** The one with the greatest stamp is committed first, and goes before 499 that are tentative. */
+    private static void lastOfFiveHundredFirst() {
+        Story story = Stories.writesAt(1, 499).then(x -> x.write(0, 0, 1000), x -> x.commit(1));
+        Story met = story.then(x -> x.meet(0, 1, 1));
+        met.due("the first one now", x -> x.order(1, 0), 499);
+        met.due("the next one", x -> x.order(1, 1), 0);
+        met.due("the last one", x -> x.order(1, 499), 498);
+        met.due("none behind it", x -> x.order(1, 500), DriftStore.NONE);
+        met.due("all of them", x -> x.cell(1, 0, false), 500);
+        Story all = met.then(x -> x.meet(1, 0, 500), x -> x.commit(499));
+        all.due("the last one committed", x -> x.look(498, 2), 500);
+        Story known = Stories.writesAt(1, 499).then(x -> x.write(0, 0, 1000), x -> x.meet(0, 1, 1), x -> x.commit(1));
+        known.due("the last of 500", x -> x.order(1, 499), 499);
+        known.then(x -> x.meet(0, 1, 1)).due("goes to the front", x -> x.order(1, 0), 499);
+        known.then(x -> x.meet(0, 1, 1)).due("with 499 behind it", x -> x.order(1, 499), 498);
     }
 
     private static void theGiverStays() {

@@ -11,6 +11,9 @@ public final class ProgramEdgesTest {
         noBlanksInsideTokens();
         tokensAsLongAsCanBe();
         wordsThatAreNone();
+        eachByteBehindAWord();
+        eachByteBeforeAWord();
+        eachByteBeforeANumber();
         numbersAtMost();
         numbersThatAreNone();
         cellsLeftOfBecomes();
@@ -18,6 +21,7 @@ public final class ProgramEdgesTest {
         cellsWithoutNumber();
         bracketsAtMostSixDeep();
         bracketsInEachPlace();
+        valuesThatWaitInBrackets();
         rulesAtMostSix();
         effectsAtMostEight();
         partsAtMostEighty();
@@ -27,6 +31,7 @@ public final class ProgramEdgesTest {
         cellsThatBecomeAreNoParts();
         allLimitsAtOnce();
         missingAtEachPlace();
+        whatWasCutIsMissing();
         firstFaultCounts();
         longestTape();
         Check.finish("ProgramEdgesTest");
@@ -140,7 +145,7 @@ public final class ProgramEdgesTest {
     /** 'also of a word ... that is none' */
     private static void wordsThatAreNone() {
         for (String word : new String[] {"s", "serve", "servers", "sever", "sta", "stam", "stamps", "stampc",
-            "serverstamp", "a", "x", "cc", "ab", "zz", "iff", "elsed"}) {
+            "serverstamp", "a", "z", "cc", "az", "za", "cz", "iff", "elsed", "servera", "serverz"}) {
             fault("c1 := " + word, 6);
             fault("c1 := 1 + " + word + " + 1", 10);
             fault(word, 0);
@@ -157,6 +162,34 @@ public final class ProgramEdgesTest {
         fault("If 1 = 1 then c1 := 1", 0);
         fault("c1 := Server", 6);
         fault("c1 := STAMP", 6);
+    }
+
+    private static boolean isLetter(int b) {
+        return b >= 'a' && b <= 'z';
+    }
+
+    private static boolean isDigit(int b) {
+        return b >= '0' && b <= '9';
+    }
+
+    private static void eachByteBehindAWord() {
+        for (int b = 0; b < 256; b++) {
+            boolean joins = b == '+' || b == '-' || b == '*' || b == ',';
+            fault("c1:=server" + (char) b, b == ' ' ? GOOD : isLetter(b) ? 4 : joins ? 11 : 10);
+        }
+    }
+
+    private static void eachByteBeforeAWord() {
+        for (int b = 0; b < 256; b++) {
+            fault("c1:=" + (char) b + "stamp", b == ' ' ? GOOD : isDigit(b) ? 5 : b == '(' ? 10 : 4);
+        }
+    }
+
+    private static void eachByteBeforeANumber() {
+        for (int b = 0; b < 256; b++) {
+            boolean good = b == ' ' || isDigit(b) || b == 'c';
+            fault("c1:=" + (char) b + "1", good ? GOOD : b == '(' ? 6 : 4);
+        }
     }
 
     /** 'NUMBERS (digits, at most 2^31 - 1)' */
@@ -273,6 +306,20 @@ public final class ProgramEdgesTest {
         fault("c1:=" + "(1)+".repeat(50) + "1", GOOD);
         fault("c1:=((((((1)))))", 16);
         fault("c1:=((((((1)))))))", 17);
+    }
+
+    /** In each bracket a sum and a product wait for what is inside, on both sides of a compare. */
+    private static void valuesThatWaitInBrackets() {
+        String sum = "1+2*1";
+        int value = 3;
+        for (int deep = 1; deep <= 6; deep++) {
+            sum = "1+2*(" + sum + ")";
+            value = 1 + 2 * value;
+            makes(sum, value);
+            Story story = Stories.written("if " + sum + "=" + sum + " then c1:=" + sum + "*1,c2:=" + sum);
+            story.due("the same on both sides, " + deep + " deep", x -> x.outcome(0, 0), 1);
+            story.due("the second effect, " + deep + " deep", x -> x.cell(0, 2, false), value);
+        }
     }
 
     /** 'at most 6 RULES' */
@@ -432,6 +479,18 @@ public final class ProgramEdgesTest {
         }
     }
 
+    /** What the tape had before it was cut, and what an earlier program left, is not read. */
+    private static void whatWasCutIsMissing() {
+        String text = "c1 := server * stamp - c2 , c3 := 44 else c5 := 6";
+        for (int i = 0; i <= text.length(); i++) {
+            int n = i;
+            long want = new Story().fed(text.substring(0, n)).ask(x -> x.program());
+            new Story().fed(text).then(x -> x.end(n)).due("cut to " + n, x -> x.program(), want);
+            Story again = new Story().program(text).fed(text.substring(0, n));
+            again.due("again, the first " + n, x -> x.program(), want);
+        }
+    }
+
     /** 'the first token that can not stand there ..., or of the first byte that begins none' */
     private static void firstFaultCounts() {
         fault("1 $ c32", 0);
@@ -460,6 +519,12 @@ public final class ProgramEdgesTest {
         fault(" ".repeat(394) + "c1:=1(", 399);
         fault(" ".repeat(399) + "c", 400);
         fault(" ".repeat(399) + "s", 399);
+        fault(" ".repeat(397) + "c1:", 399);
+        fault(" ".repeat(394) + "server", 394);
+        fault("c1:=" + " ".repeat(390) + "server", GOOD);
+        fault("c1:=" + " ".repeat(395) + "7", GOOD);
+        fault("c1:=" + " ".repeat(394) + "c7", GOOD);
+        fault("c1:=" + " ".repeat(395) + "c", 400);
         fault(" ".repeat(400), 400);
         fault("c1:=" + "0".repeat(395) + "1", GOOD);
         fault("c1:=" + "1".repeat(396), 4);

@@ -30,6 +30,7 @@ public final class ServerEdgesTest {
         countServerAndWhat();
         countsAtTheirEdges();
         lookingChangesNothing();
+        lookingBetweenChangesNothing();
         Check.finish("ServerEdgesTest");
     }
 
@@ -391,5 +392,28 @@ public final class ServerEdgesTest {
             busy.changesNothing("count of", x -> x.count(1, n));
         }
         busy.changesNothing("writes", x -> x.writes());
+    }
+
+    /** 'what is tentative is done again in another order when more comes to be known' */
+    private static void lookingBetweenChangesNothing() {
+        for (Story story : new Story[] {Stories.busy(), talk()}) {
+            for (int i = 0; i < 5; i++) {
+                int s = i;
+                story.sameAs("a look at a cell", story.watched(x -> x.cell(s, 0, false), x -> x.cell(s, 0, true)));
+                story.sameAs("a look at an outcome", story.watched(x -> x.outcome(s, 0), x -> x.order(s, 1)));
+                story.sameAs("a read", story.watched(x -> x.read(s, 7, 1, false), x -> x.assure(7, 0, true)));
+            }
+        }
+    }
+
+    /** Writes that come before others that were known longer, again and again. */
+    private static Story talk() {
+        Story story = new Story().program("if c0 < 5 then c0 := c0 * 3 + server else c0 := 1, c1 := c1 * 7 + stamp");
+        for (int i = 0; i < 24; i++) {
+            int n = i;
+            story = story.then(x -> x.write(n % 5, n % 7, 40 - n), x -> x.meet(n % 5, (n + 1 + n % 3) % 5, 1 + n % 4));
+            story = n % 5 == 4 ? story.then(x -> x.commit(1), x -> x.forget(n % 2, 1)) : story;
+        }
+        return story;
     }
 }

@@ -36,6 +36,16 @@ final class Story {
         return longer;
     }
 
+    /** The same with looks behind each call. */
+    Story watched(Call... looks) {
+        Story longer = new Story();
+        for (Call call : calls) {
+            longer.calls.add(call);
+            longer.calls.addAll(List.of(looks));
+        }
+        return longer;
+    }
+
     /** Brings a text to the tape, which must be empty. */
     Story fed(String text) {
         Story longer = then();
