@@ -1,4 +1,6 @@
-/** The edges of promise 4 and of what 'Terms' says of a PROGRAM, from its tokens to its THE FAULT. */
+import java.util.List;
+
+/** The edges of promise 4 and of what 'Terms' says of a PROGRAM, from its tokens to THE FAULT. */
 public final class ProgramEdgesTest {
     private static final int GOOD = DriftStore.NONE;
 
@@ -30,6 +32,7 @@ public final class ProgramEdgesTest {
         bracketsAreNoParts();
         cellsThatBecomeAreNoParts();
         allLimitsAtOnce();
+        eachTokenInEachPlace();
         missingAtEachPlace();
         whatWasCutIsMissing();
         firstFaultCounts();
@@ -452,6 +455,46 @@ public final class ProgramEdgesTest {
         Story story = Stories.written(most);
         story.due("its outcome", x -> x.outcome(0, 0), 1);
         story.due("its last effect", x -> x.cell(0, 8, false), 1);
+    }
+
+    /** 'the first token that can not stand there': all tokens behind each beginning that the grammar knows. */
+    private static void eachTokenInEachPlace() {
+        String parts = "1 server stamp";
+        stands("", "", "if c");
+        stands("c", "", "1");
+        stands("c1", "", ":=");
+        stands("c1 :=", parts, "c (");
+        stands("c1 := c", "1", "");
+        stands("c1 := 1", "", "+ - * , else");
+        stands("c1 := c1", "", "+ - * , else");
+        stands("c1 := server", "", "+ - * , else");
+        stands("c1 := (", "", parts + " c (");
+        stands("c1 := (stamp", ")", "+ - *");
+        stands("c1 := (1)", "", "+ - * , else");
+        stands("c1 := 1 +", parts, "c (");
+        stands("c1 := 1 -", parts, "c (");
+        stands("c1 := 1 *", parts, "c (");
+        stands("c1 := 1,", "", "c");
+        stands("c1 := 1 else", "", "if c");
+        stands("if", "", parts + " c (");
+        stands("if 1", "", "+ - * = # < >");
+        stands("if (1", "", "+ - * )");
+        stands("if (1)", "", "+ - * = # < >");
+        stands("if 1 =", "", parts + " c (");
+        stands("if 1 # 1", "", "+ - * and then");
+        stands("if 1 < 1 and", "", parts + " c (");
+        stands("if 1 > 1 then", "", "c");
+        stands("if 1 = 1 then c1 := 1", "", "+ - * , else");
+    }
+
+    /** Some tokens make it good, behind others something is missing, and no other one can stand there. */
+    private static void stands(String text, String good, String missing) {
+        for (String token : "if then else and server stamp c 1 = # < > + - * := , ( ) $ x 2147483648".split(" ")) {
+            String longer = text + " " + token;
+            boolean isGood = List.of(good.split(" ")).contains(token);
+            boolean isMissing = List.of(missing.split(" ")).contains(token);
+            fault(longer, isGood ? GOOD : isMissing ? longer.length() : text.length() + 1);
+        }
     }
 
     /** 'or the length if something is missing': each beginning of a text. */

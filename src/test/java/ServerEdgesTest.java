@@ -394,25 +394,38 @@ public final class ServerEdgesTest {
         busy.changesNothing("writes", x -> x.writes());
     }
 
-    /** 'what is tentative is done again in another order when more comes to be known' */
+    /** 'what is tentative is done again in another order when more comes to be known', looked at before or not */
     private static void lookingBetweenChangesNothing() {
         for (Story story : new Story[] {Stories.busy(), talk()}) {
-            for (int i = 0; i < 5; i++) {
-                int s = i;
-                story.sameAs("a look at a cell", story.watched(x -> x.cell(s, 0, false), x -> x.cell(s, 0, true)));
-                story.sameAs("a look at an outcome", story.watched(x -> x.outcome(s, 0), x -> x.order(s, 1)));
-                story.sameAs("a read", story.watched(x -> x.read(s, 7, 1, false), x -> x.assure(7, 0, true)));
+            for (int n = 1; n <= story.size(); n++) {
+                Story part = story.first(n);
+                part.sameAs("a look at cells", part.watched(cellsOfAll()));
+                part.sameAs("a look at outcomes", part.watched(x -> x.outcome(1, 0), x -> x.outcome(2, 1)));
+                part.sameAs("a read", part.watched(x -> x.read(3, 7, 1, false), x -> x.assure(7, 0, true)));
             }
         }
+    }
+
+    private static Story.Call[] cellsOfAll() {
+        Story.Call[] looks = new Story.Call[5];
+        for (int i = 0; i < 5; i++) {
+            int s = i;
+            looks[i] = x -> x.cell(s, 0, false);
+        }
+        return looks;
     }
 
     /** Writes that come before others that were known longer, again and again. */
     private static Story talk() {
         Story story = new Story().program("if c0 < 5 then c0 := c0 * 3 + server else c0 := 1, c1 := c1 * 7 + stamp");
-        for (int i = 0; i < 24; i++) {
+        for (int i = 0; i < 5; i++) {
+            int s = i;
+            story = story.then(x -> x.write(s, 0, 50 - 10 * s), x -> x.write(s, 1, 0), x -> x.write(s, 2, 70 - 5 * s));
+        }
+        for (int i = 0; i < 20; i++) {
             int n = i;
-            story = story.then(x -> x.write(n % 5, n % 7, 40 - n), x -> x.meet(n % 5, (n + 1 + n % 3) % 5, 1 + n % 4));
-            story = n % 5 == 4 ? story.then(x -> x.commit(1), x -> x.forget(n % 2, 1)) : story;
+            story = story.then(x -> x.meet(n % 5, (n + 1 + n % 3) % 5, 1 + n % 3));
+            story = n % 4 == 3 ? story.then(x -> x.commit(1), x -> x.forget(n % 2, 1)) : story;
         }
         return story;
     }

@@ -36,6 +36,12 @@ final class Story {
         return longer;
     }
 
+    Story first(int n) {
+        Story shorter = new Story();
+        shorter.calls.addAll(calls.subList(0, n));
+        return shorter;
+    }
+
     /** The same with looks behind each call. */
     Story watched(Call... looks) {
         Story longer = new Story();
