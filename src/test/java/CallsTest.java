@@ -9,6 +9,7 @@ public final class CallsTest {
         manyPrograms();
         manyRefusals();
         longTalk();
+        laterCallsThrowNothing();
         Check.finish("CallsTest");
     }
 
@@ -100,5 +101,19 @@ public final class CallsTest {
                 Check.due("outcome", x.outcome(to, i / 9), plain.outcome(to, i / 9));
                 break;
         }
+    }
+
+    /** What later calls answer is free, but by the language's rules none of them throws. */
+    private static void laterCallsThrowNothing() {
+        DriftStore x = Check.storeWith(LONG);
+        for (int i = 0; i < 3000; i++) {
+            x.write(i % 5, i % 8, i);
+            x.meet(i % 5, (i + 1 + i / 11 % 4) % 5, i % 90);
+            x.commit(i % 4);
+            x.forget(i % 5, i % 3);
+            x.feed(i, i, i, i, i);
+            x.read(i % 5, i % 8, i % 32, i % 2 == 0);
+        }
+        Check.holds("the later calls came to an end", true);
     }
 }
